@@ -100,9 +100,10 @@ final class SlowOffice {
 
     int strength(int a, int b) {
         pair(a, b);
+        int[][] direct = directs();
         int best = 0;
-        for (List<Integer> row : ways(a, b, directs())) {
-            best = Math.max(best, strong(row, directs()));
+        for (List<Integer> row : ways(a, b, direct)) {
+            best = Math.max(best, strong(row, direct));
         }
         return best;
     }
@@ -146,7 +147,7 @@ final class SlowOffice {
             List<Integer> row = row(way);
             reached = row.size() >= 2 && row.get(0) == a && row.get(row.size() - 1) == b && strong(row, direct) >= s;
         }
-        boolean held = (long) (set & 0xffffffffL) < 1L << n && in(set, a) && !in(set, b);
+        boolean held = (set & 0xffffffffL) < 1L << n && in(set, a) && !in(set, b);
         for (int x = 0; x < n; x++) {
             for (int y = 0; y < n; y++) {
                 held &= !(in(set, x) && !in(set, y) && direct[x][y] > s);
@@ -239,14 +240,14 @@ final class SlowOffice {
     }
 
     private boolean ranking(int word) {
-        String digits = String.format("%08x", word);
-        for (int i = 0; i < 8; i++) {
-            int digit = Character.digit(digits.charAt(7 - i), 16);
-            if (digit > 8 || i >= n && digit != 0) {
+        long rest = word & 0xffffffffL;
+        for (int c = 0; c < n; c++) {
+            if (rest % 16 > 8) {
                 return false;
             }
+            rest /= 16;
         }
-        return true;
+        return rest == 0;
     }
 
     private void pair(int a, int b) {
@@ -273,7 +274,7 @@ final class SlowOffice {
     }
 
     private static int place(int ranking, int c) {
-        int place = Character.digit(String.format("%08x", ranking).charAt(7 - c), 16);
+        int place = (ranking >> 4 * c) & 15;
         return place == 0 ? 99 : place;
     }
 

@@ -3,13 +3,13 @@ import java.util.Random;
 /** Long runs of all sorts of calls, each answered as by SlowOffice. The seeds are fixed. */
 public final class SlowOfficeTest {
     private static final int CALLS = 512;
-    private static final int RUNS = 150;
+    private static final int RUNS = 200;
     private static final String[] QUESTIONS = {
         "prefer", "strength", "way", "cut", "locked", "winner", "order", "top", "without", "proves",
         "proves", "proves", "drawn", "state", "voters"};
     private static final String[] CHANGES = {
-        "tie", "tie", "tie", "open", "ballot", "ballot", "ballot", "ballot", "ballot", "turn", "turn", "turn",
-        "correct"};
+        "tie", "tie", "tie", "tie", "tie", "tie", "open", "ballot", "ballot", "ballot", "ballot", "ballot", "ballot",
+        "ballot", "ballot", "ballot", "turn", "turn", "turn", "turn", "turn", "turn", "correct", "correct"};
 
     private final int seed;
     private final Random random;
@@ -41,14 +41,7 @@ public final class SlowOfficeTest {
 
     private boolean run() {
         for (int call = 0; call < CALLS; call++) {
-            String name = call > 480 && random.nextInt(20) == 0 ? "seal" : pick(call < 20 || random.nextInt(3) > 0
-                ? CHANGES : QUESTIONS);
-            if (call > 200) {
-                name = random.nextInt(4) > 0 && !name.equals("seal") ? pick(QUESTIONS) : name;
-            }
-            if (name.equals("open") && random.nextInt(2) == 0) {
-                name = "ballot";
-            }
+            String name = nextName(call);
             int[] args = arguments(name);
             String got = Calls.answer(office, name, args);
             String due = Calls.answer(slow, name, args);
@@ -59,6 +52,15 @@ public final class SlowOfficeTest {
             }
         }
         return true;
+    }
+
+    /** At first mostly changes, so that there is something to ask about; the seal near the end. */
+    private String nextName(int call) {
+        if (call > 480 && random.nextInt(20) == 0) {
+            return "seal";
+        }
+        int changesOfTwelve = call < 20 ? 12 : call < 200 ? 8 : 2;
+        return pick(random.nextInt(12) < changesOfTwelve ? CHANGES : QUESTIONS);
     }
 
     private String pick(String[] names) {
