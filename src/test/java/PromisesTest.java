@@ -1,8 +1,5 @@
 /** What each promise says, on runs whose answers were worked out by hand. */
-public final class PromisesTest {
-    /** A ring 0 1 2 with prefer 0 1 = 8, 1 2 = 9, 2 0 = 7 of 12 voters, who all have 3 last. */
-    private static final String[] RING = {"0x321 5", "0x213 4", "0x132 3"};
-
+public final class PromisesTest extends Elections {
     public static void main(String[] args) {
         promise1();
         promise2();
@@ -26,45 +23,6 @@ public final class PromisesTest {
         promise20();
         firstNamed();
         Run.end();
-    }
-
-    private static Run ring(String title) {
-        return new Run(title, 4).batch(0, RING);
-    }
-
-    /** The example of 45 voters by which Schulze's method is told in books; 0 .. 4 are A .. E. */
-    private static Run schulze(String title) {
-        return new Run(title, 5)
-            .batch(0, "0x45231 5", "0x32451 5", "0x23514 8", "0x45132 3", "0x35142 7", "0x54123 2")
-            .batch(1, "0x31245 7", "0x14523 8");
-    }
-
-    /** Memphis, Nashville, Chattanooga, Knoxville: each comes before those farther away. */
-    private static Run tennessee(String title) {
-        return new Run(title, 4).batch(0, "0x4321 42", "0x3214 26", "0x2134 15", "0x1234 17");
-    }
-
-    /**
-     * Two ballots for each a, b, w in edges: prefer a b is the sum of all w and w, prefer b a the
-     * sum less w, and pairs that are not there have the sum both ways.
-     */
-    private static Run edges(Run run, int n, int... edges) {
-        for (int e = 0; e < edges.length; e += 3) {
-            int a = edges[e];
-            int b = edges[e + 1];
-            int ahead = 1 << 4 * a | 2 << 4 * b;
-            int behind = (n - 1) << 4 * a | n << 4 * b;
-            int place = 1;
-            for (int c = 0; c < n; c++) {
-                if (c != a && c != b) {
-                    ahead |= (place + 2) << 4 * c;
-                    behind |= (n - 1 - place) << 4 * c;
-                    place++;
-                }
-            }
-            run.batch(e / 3, ahead + " " + edges[e + 2], behind + " " + edges[e + 2]);
-        }
-        return run;
     }
 
     private static void promise1() {
@@ -221,19 +179,14 @@ public final class PromisesTest {
             .play("way 0 5 : 0x6521");
         edges(new Run("12 drawn order does not matter", 4).play("tie 2 0 : -"), 4, 0, 1, 5, 1, 3, 5, 0, 2, 5, 2, 3, 5)
             .play("way 0 3 : 0x421");
-        long8("12 all eight").play("way 0 7 : 0x87654321", "way 7 0 : 0", "way 1 7 : 0x8765432");
-    }
-
-    /** Each beats the next one by number, and nobody else. */
-    private static Run long8(String title) {
-        return edges(new Run(title, 8), 8, 0, 1, 1, 1, 2, 1, 2, 3, 1, 3, 4, 1, 4, 5, 1, 5, 6, 1, 6, 7, 1);
+        chain("12 all eight").play("way 0 7 : 0x87654321", "way 7 0 : 0", "way 1 7 : 0x8765432");
     }
 
     private static void promise13() {
         ring("13").play("cut 1 0 : 14", "cut 0 2 : 9", "cut 0 1 : 9", "cut 3 0 : 8", "cut 2 1 : 12", "cut 0 3 : 1",
             "cut 0 4 : BAD", "cut 4 0 : BAD", "cut -1 0 : BAD", "cut 0 -1 : BAD", "cut 3 3 : BAD");
         schulze("13 longer").play("cut 0 4 : 15", "cut 4 0 : 30", "cut 4 3 : 16", "cut 2 0 : 14");
-        long8("13 no way").play("cut 3 0 : 248", "cut 7 0 : 128", "cut 0 7 : 1");
+        chain("13 no way").play("cut 3 0 : 248", "cut 7 0 : 128", "cut 0 7 : 1");
         new Run("13 nothing counted", 3).play("cut 1 2 : 2");
     }
 
@@ -256,7 +209,7 @@ public final class PromisesTest {
         new Run("14 other sets do", 3).batch(0, "0x321 5").play("proves 0 1 5 0x21 1 : true",
             "proves 0 1 5 0x21 5 : true", "proves 0 2 5 0x321 1 : true", "proves 0 2 5 0x31 3 : true",
             "proves 2 0 0 0 4 : true", "proves 2 0 0 0 6 : true");
-        long8("14 all eight").play("proves 0 7 8 0x87654321 1 : true", "proves 0 7 8 0x87654321 127 : true",
+        chain("14 all eight").play("proves 0 7 8 0x87654321 1 : true", "proves 0 7 8 0x87654321 127 : true",
             "proves 0 7 9 0x87654321 127 : false", "proves 0 7 7 0x87654321 127 : false",
             "proves 0 7 8 0x7654321 127 : false", "proves 0 6 8 0x87654321 1 : false");
         edges(new Run("14 round the ring", 3), 3, 0, 1, 1, 1, 2, 1, 2, 0, 1).play("proves 1 0 4 0x132 2 : true",
@@ -287,11 +240,6 @@ public final class PromisesTest {
         sameRing("16 drawn 0", 0).play("locked 0 1 : true", "locked 1 2 : true", "locked 2 0 : false");
         sameRing("16 drawn 1", 1).play("locked 0 1 : false", "locked 1 2 : true", "locked 2 0 : true");
         sameRing("16 drawn 2", 2).play("locked 0 1 : true", "locked 1 2 : false", "locked 2 0 : true");
-    }
-
-    /** All three of the ring have a direct of 10; against 2 0 there are 4, against the others 6. */
-    private static Run sameDirect(String title, String tie) {
-        return new Run(title, 3).play(tie).batch(0, "0x321 4", "0x213 5", "0x132 5", "0x101 1", "0x010 1");
     }
 
     /** A ring of the same direct and the same against it, one coming first and then in turn. */

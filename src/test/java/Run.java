@@ -5,11 +5,14 @@ final class Run {
     private static final String BAD = "throws.IllegalArgumentException";
     private static final String STATE = "throws.IllegalStateException";
     private static final String INDEX = "throws.IndexOutOfBoundsException";
+    /** The document promises nothing of an object after so many calls. */
+    private static final int MOST_CALLS = 512;
     private static int calls = 0;
     private static int wrong = 0;
 
     private final String title;
     private final BeatPathOffice office;
+    private int made = 0;
 
     Run(String title, int n) {
         this.title = title;
@@ -47,6 +50,10 @@ final class Run {
         int[] args = Arrays.stream(words).skip(1).mapToInt(w -> Long.decode(w).intValue()).toArray();
         String got = Calls.answer(office, words[0], args);
         calls++;
+        made++;
+        if (made > MOST_CALLS) {
+            throw new AssertionError(title + ": more calls than the document promises answers to");
+        }
         if (!got.equals(due(parts[1].trim()))) {
             wrong++;
             System.out.println(title + ": " + row + " answered " + got);
