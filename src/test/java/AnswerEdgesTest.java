@@ -282,6 +282,11 @@ public final class AnswerEdgesTest extends Elections {
                 .play("without 0 0 0 : 1", "without 0 0 1 : INDEX", "without 0 1 0 : 1", "without 0 2 0 : 1",
                     "without 0 2 1 : INDEX", "without 1 0 0 : 0", "without 1 0 1 : " + (state == 1 ? "INDEX" : "1"));
         }
+        for (int state = 0; state < 3; state++) {
+            inState("without: a batch that does not count is not taken out: state " + state, state)
+                .batch(1, "0x21 1").play("without 0 0 0 : 0", "without 0 0 1 : INDEX", "without 0 1 0 : 0",
+                    "without 0 2 0 : 0", "without 0 2 1 : INDEX");
+        }
         inState("without: a batch that was corrected", 1).batch(1, "0x21 1").play("correct 0 0 0x12 : 0x21",
             "without 0 0 0 : 0", "without 0 0 1 : INDEX", "without 1 0 0 : 1", "without 1 0 1 : INDEX");
         inState("without: a sealed count", 1).play("seal : true", "without 0 0 1 : 1", "without 0 0 2 : INDEX");

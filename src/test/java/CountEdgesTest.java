@@ -327,7 +327,7 @@ public final class CountEdgesTest extends Elections {
     }
 
     private static void correct() {
-        inState("correct: also if the batch is open", 0).play("correct 0 0 0x12 : STATE", "correct 0 0 0x21 : STATE",
+        inState("correct: also if the batch is open", 0).play("correct 0 0 0x21 : STATE", "correct 0 0 0x12 : STATE",
             "turn 0 0 : -", "prefer 0 1 : 3", "correct 0 0 0x12 : 0x21");
         inState("correct: another ranking: the one before", 1).play("correct 0 0 0x12 : 0x21",
             "correct 0 0 0x12 : 0x12", "prefer 1 0 : 3", "correct 0 0 0 : 0x12", "correct 0 0 0x88 : 0",

@@ -19,6 +19,11 @@ public final class RefusedTest {
         "ballot 2 0x111 5", "ballot 2 0x012 10000", "open", "turn 3 0", "turn 1 2", "turn 2 0", "turn 2 1",
         "correct 2 5 0x210", "turn 2 2", "turn 0 1", "turn 0 2", "seal", "seal"};
 
+    /** As many batches as there may be: so behind the twelfth one no other is opened. */
+    private static final String[] TWELVE = {"tie 1 0", "open", "ballot 0 0x321 2", "turn 0 0", "open",
+        "ballot 1 0x213 3", "turn 1 0", "turn 1 1", "open", "open", "open", "open", "open", "open", "open", "open",
+        "open", "open", "ballot 2 0x132 4", "ballot 11 0x312 1", "turn 2 0", "turn 11 0", "turn 1 2", "seal"};
+
     private static int asked = 0;
     private static int wrong = 0;
 
@@ -28,10 +33,13 @@ public final class RefusedTest {
         turn();
         correct();
         without();
+        List<String> calls = calls();
         for (int at = 0; at <= STORY.length; at++) {
-            changesNothing(at);
+            changesNothing(STORY, at, calls);
         }
-        thirteenthBatch();
+        for (int at = 0; at <= TWELVE.length; at++) {
+            changesNothing(TWELVE, at, List.of("open", "tie 0 0", "state 12", "turn 12 0", "ballot 12 0 1"));
+        }
         System.out.println(asked + " refused calls that change nothing, " + wrong + " wrong");
         if (wrong != 0) {
             System.exit(1);
@@ -124,18 +132,14 @@ public final class RefusedTest {
         }
     }
 
-    /** Each call that is refused behind so many calls of the story. */
-    private static void changesNothing(int at) {
-        String due = told(new BeatPathOffice(N), at, "");
-        for (String call : calls()) {
-            SlowOffice model = new SlowOffice(N);
-            for (int i = 0; i < at; i++) {
-                answer(model, STORY[i]);
-            }
-            String refusal = answer(model, call);
-            if (refusal.startsWith("throws.")) {
+    /** Those of the calls that are refused behind so many calls of a story. */
+    private static void changesNothing(String[] story, int at, List<String> calls) {
+        String due = told(story, at, "");
+        for (String call : calls) {
+            String refusal = refusal(story, at, call);
+            if (!refusal.isEmpty()) {
                 asked++;
-                if (!told(new BeatPathOffice(N), at, call).equals(due.replace("refusal", refusal))) {
+                if (!told(story, at, call).equals(due.replace("refusal", refusal))) {
                     wrong++;
                     System.out.println(call + " behind call " + at + " of the story is not refused by " + refusal
                         + ", or changes something");
@@ -144,16 +148,29 @@ public final class RefusedTest {
         }
     }
 
-    /** All answers of the story with a call in it, and what the object looks like behind that call and last. */
-    private static String told(BeatPathOffice office, int at, String call) {
+    /** The exception that is due for a call behind so many calls of a story, or nothing. */
+    private static String refusal(String[] story, int at, String call) {
+        SlowOffice model = new SlowOffice(N);
+        for (int i = 0; i < at; i++) {
+            if (answer(model, story[i]).startsWith("throws.")) {
+                throw new AssertionError("the story itself is refused: " + story[i]);
+            }
+        }
+        String due = answer(model, call);
+        return due.startsWith("throws.") ? due : "";
+    }
+
+    /** All answers of a story with a call in it, and how the object looks behind that call and last. */
+    private static String told(String[] story, int at, String call) {
+        BeatPathOffice office = new BeatPathOffice(N);
         StringBuilder text = new StringBuilder();
         for (int i = 0; i < at; i++) {
-            text.append(answer(office, STORY[i])).append(' ');
+            text.append(answer(office, story[i])).append(' ');
         }
         text.append(call.isEmpty() ? "refusal" : answer(office, call)).append('\n');
         look(office, text);
-        for (int i = at; i < STORY.length; i++) {
-            text.append(answer(office, STORY[i])).append(' ');
+        for (int i = at; i < story.length; i++) {
+            text.append(answer(office, story[i])).append(' ');
         }
         look(office, text);
         return text.toString();
@@ -227,18 +244,5 @@ public final class RefusedTest {
             calls.add("correct " + batch + " " + ballot + " 0x312");
             calls.add("correct " + batch + " " + ballot + " 0x912");
         }
-    }
-
-    /** The story has not so many batches. */
-    private static void thirteenthBatch() {
-        Run run = new Run("open, refused, changes nothing", 2);
-        for (int batch = 0; batch < 12; batch++) {
-            run.play("open : " + batch, "ballot " + batch + " 0x21 1 : 0");
-        }
-        for (int batch = 0; batch < 12; batch++) {
-            run.play("open : STATE", "state " + batch + " : 0", "ballot " + batch + " 0x21 1 : 1",
-                "turn " + batch + " 0 : -", "voters : " + 2 * (batch + 1));
-        }
-        run.play("open : STATE", "state 12 : BAD", "voters : 24", "seal : true");
     }
 }
