@@ -202,6 +202,9 @@ public final class AnswerEdgesTest extends Elections {
             "locked 0 1 : true", "locked 6 7 : false").row("order", 7, 0, 1, 2, 3, 4, 5, 6);
         edges(new Run("locked: by pairs that are locked, not by refused ones", 4), 4, 0, 1, 9, 1, 2, 8, 2, 0, 7, 0, 3,
             5, 3, 2, 6).play("locked 2 0 : false", "locked 3 2 : true", "locked 0 3 : true");
+        edges(new Run("locked: one comes from b to a by two ways", 4), 4, 1, 3, 9, 2, 3, 8, 0, 1, 7, 0, 2, 6, 3, 0, 5)
+            .play("locked 1 3 : true", "locked 2 3 : true", "locked 0 1 : true", "locked 0 2 : true",
+                "locked 3 0 : false").row("order", 0, 1, 2, 3);
         edges(new Run("locked: parts that were locked apart", 4), 4, 0, 1, 9, 2, 3, 8, 1, 2, 7, 3, 0, 6)
             .play("locked 0 1 : true", "locked 2 3 : true", "locked 1 2 : true", "locked 3 0 : false");
     }
